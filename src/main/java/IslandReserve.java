@@ -413,7 +413,7 @@ public final class IslandReserve {
 
     private static void requireArgument(boolean isRight) {
         if (!isRight) {
-            throw new IllegalArgumentException("an argument is out of range, or the buffer no plan");
+            throw new IllegalArgumentException("out of range, or the buffer is no plan");
         }
     }
 

@@ -1,12 +1,7 @@
 import java.util.regex.Matcher;
-import java.util.regex.Pattern;
 
 /** Promises 10 to 14: append, clearBuffer, firstError, run, undo. */
 final class BufferTest {
-    private static final String ORDER = "(\\+[0-3]|-[0-3]|s|h([1-9]|[1-3][0-9]|4[0-8])"
-            + "|f([0-9]|[1-3][0-9]|4[0-7])=(0|[1-9][0-9]{0,2}|1[0-4][0-9][0-9]|1500))";
-    private static final Pattern PLAN = Pattern.compile(ORDER + "(;" + ORDER + ")*");
-
     private BufferTest() { }
 
     public static void main(String[] args) {
@@ -127,7 +122,7 @@ final class BufferTest {
             wanted++;
         }
         Check.due("firstError of " + text, x.firstError(), wanted);
-        boolean isPlan = PLAN.matcher(text).matches();
+        boolean isPlan = Model.PLAN.matcher(text).matches();
         try {
             x.run();
             Check.due("run takes " + text, 1, isPlan ? 1 : 0);
@@ -138,7 +133,7 @@ final class BufferTest {
     }
 
     private static boolean mayBegin(String text) {
-        Matcher matcher = PLAN.matcher(text);
+        Matcher matcher = Model.PLAN.matcher(text);
         return matcher.matches() || matcher.hitEnd();
     }
 
@@ -214,7 +209,8 @@ final class BufferTest {
     private static void runRefuses() {
         IslandReserve x = new IslandReserve();
         Check.illegal(x, "run of nothing", () -> x.run());
-        for (String text : new String[] {"+", "s;", "h", "f1", "f1=", "x", "s;x", "h49", "+0;s;-"}) {
+        String[] texts = {"+", "s;", "h", "f1", "f1=", "x", "s;x", "h49", "+0;s;-"};
+        for (String text : texts) {
             Check.type(x, text);
             Check.illegal(x, "run of " + text, () -> x.run());
             Check.due("the buffer stays", x.clearBuffer(), text.length());

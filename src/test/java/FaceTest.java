@@ -115,9 +115,11 @@ final class FaceTest {
             "assert ", "package ", "Double", "Exact", "Object", "Random", "Thread", "static {"}) {
             isSo("no " + refused, !code.contains(refused));
         }
-        isSo("ASCII alone", source.chars().allMatch(sign -> sign == 10 || sign >= 32 && sign < 127));
+        isSo("ASCII alone",
+                source.chars().allMatch(sign -> sign == 10 || sign >= 32 && sign < 127));
         for (String line : code.split("\n")) {
-            boolean isRight = !line.startsWith("import ") || line.equals("import java.util.Arrays;");
+            boolean isRight = !line.startsWith("import ")
+                    || line.equals("import java.util.Arrays;");
             isSo("an import: " + line, isRight);
             isSo("only System.arraycopy: " + line,
                     !line.replace("System.arraycopy", "").contains("System"));

@@ -122,7 +122,13 @@ final class HoursTest {
         Check.counts(x, "passed", 11, 3, 5);
         Check.hourIs(x, "dark by one", 4, 121, 201, 1, 0, 0, 0, 1);
         Check.due("as one call", x.count(14), 4);
-        Check.due("undo", x.undo(), 3);
+        Check.due("what was dark before is not told again", x.pass(1), 0);
+        x.forecast(6, 300);
+        Check.due("one more", x.pass(2), 1);
+        x.undo();
+        x.undo();
+        x.undo();
+        Check.due("undo", x.undo(), 2);
         Check.counts(x, "undone", 0, 0, 0, 1);
         Check.hourIs(x, "undone", 0, 100, -1, -1, -1, -1, -1, -1);
         Check.due("pass to the end", x.pass(48), 3);

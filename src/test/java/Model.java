@@ -1,5 +1,6 @@
 import java.util.ArrayDeque;
 import java.util.ArrayList;
+import java.util.Arrays;
 import java.util.Comparator;
 import java.util.Deque;
 import java.util.List;
@@ -10,7 +11,8 @@ import java.util.regex.Pattern;
 final class Model {
     private static final String ORDER = "(?:\\+[0-3]|-[0-3]|s|h(?:[1-9]|[1-3][0-9]|4[0-8])"
             + "|f(?:[0-9]|[1-3][0-9]|4[0-7])=(?:0|[1-9][0-9]{0,2}|1[0-4][0-9][0-9]|1500))";
-    private static final Pattern PLAN = Pattern.compile(ORDER + "(?:;" + ORDER + ")*");
+    /** Of a whole plan; hitEnd() of a matcher tells whether more could make one. */
+    static final Pattern PLAN = Pattern.compile(ORDER + "(?:;" + ORDER + ")*");
 
     enum Does { STANDS, WARMS_UP, RUNS, LOST }
 
@@ -78,7 +80,7 @@ final class Model {
         for (int number = 0; number < 4; number++) {
             world.engines.add(new Engine(number));
         }
-        java.util.Arrays.fill(world.forecast, 100);
+        Arrays.fill(world.forecast, 100);
     }
 
     private static void argument(boolean fits) {
@@ -201,7 +203,7 @@ final class Model {
         int[] loads = new int[4];
         int most = running.stream().mapToInt(engine -> engine.greatest).sum();
         running.forEach(engine -> loads[engine.number] = engine.least);
-        int still = load - java.util.Arrays.stream(loads).sum();
+        int still = load - Arrays.stream(loads).sum();
         int burned = still < 0 ? -still : 0;
         still += burned;
         List<Engine> inOrder = new ArrayList<>(running);
@@ -217,7 +219,8 @@ final class Model {
         for (Engine lost : running) {
             enough &= most - lost.greatest >= load;
         }
-        return new Shared(loads, still, burned, most - java.util.Arrays.stream(loads).sum(), enough);
+        int reserve = most - Arrays.stream(loads).sum();
+        return new Shared(loads, still, burned, reserve, enough);
     }
 
     private static int load(World world, int hour) {
@@ -340,7 +343,8 @@ final class Model {
             return -1;
         }
         Gone gone = world.gone.get(hour);
-        int[] answers = {0, gone.load, gone.dark, gone.burned, gone.reserve, gone.enough, gone.mask};
+        int[] answers = {0, gone.load, gone.dark, gone.burned, gone.reserve, gone.enough,
+            gone.mask};
         return answers[what];
     }
 

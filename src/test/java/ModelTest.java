@@ -86,7 +86,8 @@ final class ModelTest {
 
     private void rate(String what, int set) {
         int greatest = number(50, 500);
-        int least = random.nextInt(3) == 0 ? number(0, 60) : number(0, Math.min(Math.max(greatest, 1), 500));
+        int mostLeast = random.nextInt(3) == 0 ? 60 : Math.min(Math.max(greatest, 1), 500);
+        int least = number(0, mostLeast);
         int merit = number(1, random.nextBoolean() ? 99 : 4);
         int hours = number(0, 4);
         compare(what + " rate", () -> x.rate(set, greatest, least, merit, hours),
@@ -144,8 +145,10 @@ final class ModelTest {
         int which = number(0, most);
         int one = number(0, 1);
         switch (kind) {
-            case 0 -> compare(what + " setOf", () -> x.setOf(set, part), () -> model.setOf(set, part));
-            case 1 -> compare(what + " hour", () -> x.hour(hour, part), () -> model.hour(hour, part));
+            case 0 -> compare(what + " setOf",
+                    () -> x.setOf(set, part), () -> model.setOf(set, part));
+            case 1 -> compare(what + " hour",
+                    () -> x.hour(hour, part), () -> model.hour(hour, part));
             case 2, 3 -> compare(what + " count", () -> x.count(which), () -> model.count(which));
             case 4 -> compare(what + " setting", () -> x.setting(one), () -> model.setting(one));
             case 5 -> compare(what + " ifLost", () -> x.ifLost(set), () -> model.ifLost(set));

@@ -250,7 +250,9 @@ final class OutlookTest {
         x.start(1);
         x.start(0);
         x.shed();
+        x.forecast(0, 320);
         x.forecast(20, 1500);
+        x.forecast(47, 10);
         x.pass(23);
         x.append('h');
         x.append('1');
@@ -264,6 +266,9 @@ final class OutlookTest {
     }
 
     private static void digestOfEveryShare() {
+        IslandReserve none = new IslandReserve();
+        none.pass(1);
+        Check.due("digest of the share 0", none.digest(), digestOf(none, new int[0]));
         for (int hours = 1; hours <= 48; hours++) {
             IslandReserve x = new IslandReserve();
             x.rate(0, 500, 0, 1, 0);
