@@ -46,6 +46,7 @@ final class FaceTest {
 
     public static void main(String[] args) throws IOException {
         methodsOfTheFace();
+        noneIsMinus1();
         fieldsAndClasses();
         privateNames();
         signsOfTheSource();
@@ -61,6 +62,10 @@ final class FaceTest {
                 + thrown;
     }
 
+    /** Doc, Exceptions: Ahead of the calls `rate`, `start`, `stop`, `lose` the interface says:
+     * ---- sets. | Doc, Exceptions: Ahead of the calls `shed`, `forecast`, `pass`, `set` the
+     * interface says: ---- loads, hours. | Doc, Exceptions: Ahead of the calls `append`,
+     * `clearBuffer`, `firstError`, `run`, `undo` the interface says: ---- the buffer. */
     private static void methodsOfTheFace() {
         Set<String> got = new TreeSet<>();
         for (Method method : IslandReserve.class.getDeclaredMethods()) {
@@ -73,6 +78,22 @@ final class FaceTest {
         isSo("one constructor", IslandReserve.class.getDeclaredConstructors().length == 1);
         isSo("a public one", IslandReserve.class.getConstructors().length == 1);
         isSo("a final class", Modifier.isFinal(IslandReserve.class.getModifiers()));
+    }
+
+    /** Doc, Exceptions: The constants: `NONE = -1`: There is nothing to return. */
+    private static void noneIsMinus1() {
+        Check.due("NONE", IslandReserve.NONE, -1);
+        IslandReserve x = new IslandReserve();
+        x.lose(0);
+        x.lose(1);
+        x.lose(2);
+        x.lose(3);
+        Check.due("no best start", x.bestStart(), IslandReserve.NONE);
+        Check.due("no cheapest sets", x.cheapest(0, 0), IslandReserve.NONE);
+        Check.due("no fuel of them", x.cheapest(0, 1), IslandReserve.NONE);
+        Check.due("no hour yet", x.hour(0, 1), IslandReserve.NONE);
+        x.pass(48);
+        Check.due("no dark hour any more", x.firstDark(), IslandReserve.NONE);
     }
 
     private static void fieldsAndClasses() {

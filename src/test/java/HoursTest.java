@@ -1,275 +1,293 @@
-/** Promises 6 to 9: shed, forecast, pass, set; and what happens in an hour. */
+/** Promises 6 to 9: shed, forecast, pass, set. */
 final class HoursTest {
     private HoursTest() { }
 
     public static void main(String[] args) {
-        shedAndTake();
-        warmthAndSpoiling();
-        spoiledWhileItCools();
-        forecastChanges();
-        forecastRefuses();
-        passCountsDark();
-        passRefuses();
-        leastLoadsBurnOff();
-        loadsByMerit();
-        reserveBearsTheGreatest();
-        fuelIsRoundedForEachSet();
-        setChanges();
-        setRefuses();
+        shedShedsTheStore();
+        shedTakesAShedStoreAgain();
+        shedIsUndoable();
+        shedReturnsWhetherItIsShed();
+        forecastChangesOneHour();
+        forecastOfAnHourThatHasGoneBy();
+        forecastIsUndoable();
+        forecastBoundsOfHour();
+        forecastBoundsOfLoad();
+        forecastReturnsTheLoadBefore();
+        forecastRefusesAnyWrongArgument();
+        passLetsHoursGoBy();
+        passIsAsManySinglePasses();
+        passIsUndoableAsOneCall();
+        passBoundsOfHours();
+        passReturnsItsDarkHours();
+        passReturnsNoEarlierDarkHours();
+        passRefusesHoursOutOfRange();
+        passRefusesAnHourAbove48();
+        setChangesOneSetting();
+        setIsUndoable();
+        setBoundsOfSetting();
+        setBoundsOfValue();
+        setReturnsThePreviousValue();
+        setRefusesAMissingSetting();
         Check.end();
     }
 
-    private static void shedAndTake() {
+    /** Doc, Promise 6: Sheds the store, */
+    private static void shedShedsTheStore() {
+        IslandReserve x = new IslandReserve();
+        x.shed();
+        Check.due("shed", x.count(10), 1);
+        Check.due("its load is not taken", x.count(3), 100);
+        x.pass(1);
+        Check.hourIs(x, "nor in an hour that goes by", 0, 100, 100, 100, 0, 0, 0, 0);
+    }
+
+    /** Doc, Promise 6: or takes it again, if it is shed. */
+    private static void shedTakesAShedStoreAgain() {
+        IslandReserve x = new IslandReserve();
+        x.shed();
+        x.pass(1);
+        x.shed();
+        Check.due("taken", x.count(10), 0);
+        Check.due("its load is taken", x.count(3), 180);
+        x.pass(1);
+        Check.due("also in an hour that goes by", x.hour(1, 1), 180);
+        Check.due("what has gone by stays", x.hour(0, 1), 100);
+    }
+
+    /** Doc, Promise 6: Undoable. */
+    private static void shedIsUndoable() {
+        Check.undoable(Check.NEW, "shed", IslandReserve::shed);
+        Check.undoable(IslandReserve::shed, "take again", IslandReserve::shed);
+    }
+
+    /** Doc, Promise 6: Returns 1 if it is shed then, otherwise 0. */
+    private static void shedReturnsWhetherItIsShed() {
         IslandReserve x = new IslandReserve();
         Check.due("shed", x.shed(), 1);
-        Check.due("shed: load", x.count(3), 100);
-        Check.due("shed: count(10)", x.count(10), 1);
-        x.pass(1);
-        Check.hourIs(x, "shed", 0, 100, 100, 100, 0, 0, 0, 0);
-        Check.due("take", x.shed(), 0);
-        Check.due("taken: load", x.count(3), 180);
-        Check.due("taken: hour(0, 1) stays", x.hour(0, 1), 100);
-        Check.due("undo", x.undo(), 2);
-        Check.due("undone: count(10)", x.count(10), 1);
+        Check.due("taken", x.shed(), 0);
+        Check.due("shed", x.shed(), 1);
+        x.pass(48);
+        Check.due("taken at the end", x.shed(), 0);
     }
 
-    private static void warmthAndSpoiling() {
+    /** Doc, Promise 7: Changes the forecast. */
+    private static void forecastChangesOneHour() {
+        for (int hour = 0; hour <= 47; hour++) {
+            IslandReserve x = new IslandReserve();
+            x.forecast(hour, 777);
+            for (int other = 0; other <= 47; other++) {
+                Check.due("forecast of " + other, x.hour(other, 0), other == hour ? 777 : 100);
+            }
+        }
+    }
+
+    /** Doc, Promise 7: Changes the forecast. */
+    private static void forecastOfAnHourThatHasGoneBy() {
         IslandReserve x = new IslandReserve();
+        x.forecast(0, 7);
         x.pass(1);
-        Check.due("warmth is 0 at least", x.count(8), 0);
-        x.shed();
-        x.pass(6);
-        Check.counts(x, "borne", 8, 6, 0);
-        x.pass(1);
-        Check.counts(x, "not borne", 8, 7, 1);
-        x.shed();
-        x.pass(3);
-        Check.counts(x, "cools, and stays spoiled", 8, 4, 1);
-        Check.due("a spoiled one takes its load", x.count(3), 180);
-        x.pass(10);
-        Check.counts(x, "cold", 8, 0, 1);
-        x.shed();
-        x.pass(2);
-        Check.counts(x, "a spoiled one becomes warm", 8, 2, 1);
-        IslandReserve y = new IslandReserve();
-        y.shed();
-        y.pass(7);
-        y.undo();
-        Check.counts(y, "undone", 8, 0, 0, 1);
+        Check.due("its forecast", x.forecast(0, 300), 7);
+        Check.hourIs(x, "its load stays", 0, 300, 87, 87, 0, 0, 0, 0);
     }
 
-    private static void spoiledWhileItCools() {
-        IslandReserve x = new IslandReserve();
-        x.shed();
-        x.pass(5);
-        x.shed();
-        x.set(1, 3);
-        Check.counts(x, "set alone does not spoil", 8, 5, 0);
-        x.pass(1);
-        Check.counts(x, "4 is above 3 when the hour has gone by", 8, 4, 1);
-        IslandReserve y = new IslandReserve();
-        y.shed();
-        y.pass(5);
-        y.shed();
-        y.set(1, 4);
-        y.pass(1);
-        Check.counts(y, "4 is not above 4", 8, 4, 0);
-        IslandReserve z = new IslandReserve();
-        z.set(1, 0);
-        z.pass(1);
-        Check.counts(z, "nothing is borne, cold", 8, 0, 0);
-        z.shed();
-        z.pass(1);
-        Check.counts(z, "nothing is borne, warm", 8, 1, 1);
-        IslandReserve w = new IslandReserve();
-        w.set(1, 48);
-        w.shed();
-        w.pass(48);
-        Check.counts(w, "48 hours are borne", 8, 48, 0);
+    /** Doc, Promise 7: Undoable. */
+    private static void forecastIsUndoable() {
+        Check.undoable(Check.NEW, "forecast", x -> x.forecast(47, 1500));
+        Check.undoable(Check.NEW, "forecast of the same", x -> x.forecast(0, 100));
     }
 
-    private static void forecastChanges() {
+    /** Doc, Promise 7: `hour`: 0 to 47 */
+    private static void forecastBoundsOfHour() {
+        Check.bounds(Check.NEW, "forecast(hour, 5)", 0, 47, Check.ILLEGAL,
+                (x, hour) -> x.forecast(hour, 5));
+    }
+
+    /** Doc, Promise 7: `load`: 0 to 1500 */
+    private static void forecastBoundsOfLoad() {
+        Check.bounds(Check.NEW, "forecast(9, load)", 0, 1500, Check.ILLEGAL,
+                (x, load) -> x.forecast(9, load));
+    }
+
+    /** Doc, Promise 7: Returns the load before. */
+    private static void forecastReturnsTheLoadBefore() {
         IslandReserve x = new IslandReserve();
         Check.due("forecast", x.forecast(0, 1500), 100);
-        Check.due("forecast", x.forecast(47, 0), 100);
-        Check.due("forecast again", x.forecast(0, 7), 1500);
-        Check.due("hour(0, 0)", x.hour(0, 0), 7);
-        Check.due("hour(1, 0)", x.hour(1, 0), 100);
-        Check.due("hour(47, 0)", x.hour(47, 0), 0);
-        Check.due("load of now", x.count(3), 87);
-        x.pass(1);
-        Check.due("forecast of what has gone by", x.forecast(0, 300), 7);
-        Check.hourIs(x, "the load stays", 0, 300, 87, 87, 0, 0, 0, 0);
-        Check.due("undo", x.undo(), 4);
-        Check.due("undone", x.hour(0, 0), 7);
+        Check.due("forecast again", x.forecast(0, 0), 1500);
+        Check.due("forecast again", x.forecast(0, 9), 0);
+        Check.due("of another hour", x.forecast(47, 9), 100);
+        x.undo();
+        x.undo();
+        Check.due("of an undone one", x.forecast(0, 8), 0);
     }
 
-    private static void forecastRefuses() {
-        IslandReserve x = new IslandReserve();
-        Check.illegal(x, "forecast hour -1", () -> x.forecast(-1, 0));
-        Check.illegal(x, "forecast hour 48", () -> x.forecast(48, 0));
-        Check.illegal(x, "forecast load -1", () -> x.forecast(0, -1));
-        Check.illegal(x, "forecast load 1501", () -> x.forecast(0, 1501));
+    /** Doc, Promise 7: Throws `IllegalArgumentException` if an argument is out of range */
+    private static void forecastRefusesAnyWrongArgument() {
+        int[][] wrong = {{-1, 0}, {48, 0}, {-1, 1500}, {48, 1500}, {0, -1}, {0, 1501}, {47, -1},
+            {47, 1501}, {-1, -1}, {48, 1501}};
+        for (int[] pair : wrong) {
+            Check.refused(Check.NEW, "forecast " + pair[0] + ", " + pair[1], Check.ILLEGAL,
+                    x -> x.forecast(pair[0], pair[1]));
+        }
     }
 
-    private static void passCountsDark() {
+    /** Doc, Promise 8: Lets hours go by. */
+    private static void passLetsHoursGoBy() {
         IslandReserve x = new IslandReserve();
         x.rate(0, 200, 60, 10, 3);
         x.start(0);
         x.forecast(4, 121);
-        Check.due("pass", x.pass(5), 3);
-        Check.counts(x, "passed", 0, 5, 1, 0);
-        Check.counts(x, "passed", 11, 3, 5);
-        Check.hourIs(x, "dark by one", 4, 121, 201, 1, 0, 0, 0, 1);
-        Check.due("as one call", x.count(14), 4);
-        Check.due("what was dark before is not told again", x.pass(1), 0);
-        x.forecast(6, 300);
-        Check.due("one more", x.pass(2), 1);
-        x.undo();
-        x.undo();
-        x.undo();
-        Check.due("undo", x.undo(), 2);
-        Check.counts(x, "undone", 0, 0, 0, 1);
-        Check.hourIs(x, "undone", 0, 100, -1, -1, -1, -1, -1, -1);
-        Check.due("pass to the end", x.pass(48), 3);
-        Check.due("the hour", x.count(0), 48);
-        Check.hourIs(x, "the last", 47, 100, 180, 0, 0, 20, 0, 1);
+        x.pass(5);
+        Check.counts(x, "five hours", 0, 5, 1, 0);
+        Check.hourIs(x, "the first", 0, 100, 180, 180, 0, 0, 0, 0);
+        Check.hourIs(x, "the second", 1, 100, 180, 180, 0, 0, 0, 0);
+        Check.hourIs(x, "the third", 2, 100, 180, 0, 0, 20, 0, 1);
+        Check.hourIs(x, "the fourth", 3, 100, 180, 0, 0, 20, 0, 1);
+        Check.hourIs(x, "the fifth", 4, 121, 201, 1, 0, 0, 0, 1);
+        Check.hourIs(x, "the sixth has not gone by", 5, 100, -1, -1, -1, -1, -1, -1);
     }
 
-    private static void passRefuses() {
-        IslandReserve x = new IslandReserve();
-        Check.illegal(x, "pass 0", () -> x.pass(0));
-        Check.illegal(x, "pass -1", () -> x.pass(-1));
-        Check.illegal(x, "pass 49", () -> x.pass(49));
-        Check.illegal(x, "pass greatest int", () -> x.pass(Integer.MAX_VALUE));
-        x.pass(1);
-        Check.badState(x, "pass 48 from 1", () -> x.pass(48));
-        Check.illegal(x, "pass 49 from 1", () -> x.pass(49));
-        x.pass(47);
-        Check.badState(x, "pass 1 from 48", () -> x.pass(1));
-        Check.illegal(x, "pass 0 from 48", () -> x.pass(0));
-    }
-
-    private static void leastLoadsBurnOff() {
-        IslandReserve x = ofRunning(3);
-        x.set(0, 0);
-        x.forecast(1, 179);
-        x.forecast(2, 180);
-        x.forecast(3, 181);
-        x.forecast(4, 0);
-        x.pass(3);
-        Check.hourIs(x, "one too much", 1, 179, 179, 0, 1, 420, 1, 7);
-        Check.hourIs(x, "just as much", 2, 180, 180, 0, 0, 420, 1, 7);
-        Check.hourIs(x, "one too little", 3, 181, 181, 0, 0, 419, 1, 7);
-        Check.properties(x, "fuel", 0, 7, 60 + 60 + 60 + 61, 4);
-        Check.counts(x, "without a load", 3, 0, 0, 180, 420, 1);
-    }
-
-    private static void loadsByMerit() {
-        IslandReserve x = new IslandReserve();
-        x.rate(0, 100, 10, 30, 0);
-        x.rate(1, 110, 20, 20, 0);
-        x.rate(2, 120, 30, 20, 0);
-        x.rate(3, 130, 40, 40, 0);
-        for (int set = 0; set < 4; set++) {
-            x.start(set);
+    /** Doc, Promise 8: Lets hours go by. */
+    private static void passIsAsManySinglePasses() {
+        IslandReserve x = busy();
+        IslandReserve y = busy();
+        int dark = 0;
+        for (int hour = 0; hour < 48; hour++) {
+            dark += y.pass(1);
         }
-        x.set(0, 0);
-        loadsOf(x, 90, 10, 20, 30, 40);
-        loadsOf(x, 100, 10, 20, 30, 40);
-        loadsOf(x, 150, 10, 70, 30, 40);
-        loadsOf(x, 190, 10, 110, 30, 40);
-        loadsOf(x, 191, 10, 110, 31, 40);
-        loadsOf(x, 281, 11, 110, 120, 40);
-        loadsOf(x, 400, 100, 110, 120, 70);
-        loadsOf(x, 460, 100, 110, 120, 130);
-        loadsOf(x, 500, 100, 110, 120, 130);
-        Check.counts(x, "what none can bear", 4, 40, 0, 0, 0);
-        x.stop(1);
-        loadsOf(x, 150, 10, 0, 100, 40);
+        Check.due("as many dark hours", x.pass(48), dark);
+        Check.due("the same state, but for the saved ones", x.digest(), y.digest());
     }
 
-    private static void loadsOf(IslandReserve x, int load, long... wanted) {
-        x.forecast(x.count(0), load);
-        for (int set = 0; set < 4; set++) {
-            Check.due("load " + load + ": setOf(" + set + ", 6)", x.setOf(set, 6), wanted[set]);
+    private static IslandReserve busy() {
+        IslandReserve x = new IslandReserve();
+        x.rate(3, 500, 100, 3, 4);
+        x.start(0);
+        x.start(3);
+        for (int hour = 0; hour < 48; hour += 3) {
+            x.forecast(hour, 15 * hour);
+        }
+        return x;
+    }
+
+    /** Doc, Promise 8: Undoable, as one call. */
+    private static void passIsUndoableAsOneCall() {
+        Check.undoable(x -> x.start(0), "pass 1", x -> x.pass(1));
+        Check.undoable(x -> x.start(0), "pass 48", x -> x.pass(48));
+        IslandReserve x = new IslandReserve();
+        x.pass(20);
+        Check.due("saved states", x.count(14), 1);
+        Check.due("undo", x.undo(), 0);
+        Check.due("the hour", x.count(0), 0);
+    }
+
+    /** Doc, Promise 8: `hours`: 1 to 48 */
+    private static void passBoundsOfHours() {
+        Check.bounds(Check.NEW, "pass(hours)", 1, 48, Check.ILLEGAL, (x, hours) -> x.pass(hours));
+    }
+
+    /** Doc, Promise 8: Returns how many of them are dark. */
+    private static void passReturnsItsDarkHours() {
+        IslandReserve x = new IslandReserve();
+        Check.due("all of 48", x.pass(48), 48);
+        IslandReserve y = new IslandReserve();
+        y.start(0);
+        Check.due("none of 10", y.pass(10), 0);
+        y.forecast(12, 121);
+        y.forecast(13, 120);
+        y.forecast(14, 1500);
+        Check.due("two of 10", y.pass(10), 2);
+        y.stop(0);
+        Check.due("one of one", y.pass(1), 1);
+    }
+
+    /** Doc, Promise 8: Returns how many of them are dark. */
+    private static void passReturnsNoEarlierDarkHours() {
+        IslandReserve x = new IslandReserve();
+        x.pass(7);
+        x.start(0);
+        Check.due("none of one", x.pass(1), 0);
+        Check.due("all of them", x.count(11), 7);
+        x.stop(0);
+        Check.due("two of two", x.pass(2), 2);
+        Check.due("all of them", x.count(11), 9);
+    }
+
+    /** Doc, Promise 8: Throws `IllegalArgumentException` if hours is out of range */
+    private static void passRefusesHoursOutOfRange() {
+        for (int hour : new int[] {1, 47, 48}) {
+            for (int hours : new int[] {0, -1, 49, Integer.MIN_VALUE, Integer.MAX_VALUE}) {
+                Check.refused(x -> x.pass(hour), "pass " + hours + " at " + hour, Check.ILLEGAL,
+                        x -> x.pass(hours));
+            }
         }
     }
 
-    private static void reserveBearsTheGreatest() {
-        IslandReserve x = new IslandReserve();
-        x.rate(0, 300, 0, 10, 0);
-        x.rate(1, 120, 0, 20, 0);
-        x.rate(2, 100, 0, 30, 0);
-        x.set(0, 0);
-        x.forecast(0, 0);
-        Check.counts(x, "no sets, no load", 4, 0, 0, 0, 1);
-        x.start(0);
-        Check.counts(x, "one set, no load", 4, 0, 0, 300, 1);
-        x.forecast(0, 1);
-        Check.counts(x, "one set, a load", 4, 0, 0, 299, 0);
-        x.start(1);
-        x.start(2);
-        x.forecast(0, 220);
-        Check.counts(x, "without the greatest just enough", 4, 0, 0, 300, 1);
-        x.forecast(0, 221);
-        Check.counts(x, "without the greatest too little", 4, 0, 0, 299, 0);
-        x.pass(1);
-        Check.counts(x, "counted", 11, 0, 1);
+    /** Doc, Promise 8: Throws `IllegalStateException` if the hour would be above 48 */
+    private static void passRefusesAnHourAbove48() {
+        for (int hour = 1; hour <= 48; hour++) {
+            int gone = hour;
+            if (hour < 48) {
+                IslandReserve x = Check.after(y -> y.pass(gone));
+                x.pass(48 - hour);
+                Check.due("up to 48 from " + hour, x.count(0), 48);
+            }
+            Check.refused(x -> x.pass(gone), "to 49 from " + hour, Check.BAD_STATE,
+                    x -> x.pass(49 - gone));
+            Check.refused(x -> x.pass(gone), "48 from " + hour, Check.BAD_STATE, x -> x.pass(48));
+        }
     }
 
-    private static void fuelIsRoundedForEachSet() {
+    /** Doc, Promise 9: Changes a setting. | Doc, Promise 9: `value`: the new value */
+    private static void setChangesOneSetting() {
         IslandReserve x = new IslandReserve();
-        x.rate(0, 50, 0, 3, 0);
-        x.rate(1, 500, 13, 7, 0);
-        x.start(0);
-        x.start(1);
-        x.set(0, 0);
-        x.forecast(0, 72);
-        x.pass(1);
-        Check.due("3 * 50 / 10", x.setOf(0, 7), 15);
-        Check.due("7 * 22 / 10", x.setOf(1, 7), 15);
-        x.forecast(1, 26);
-        x.pass(1);
-        Check.due("and 3 * 13 / 10", x.setOf(0, 7), 18);
-        Check.due("and 7 * 13 / 10", x.setOf(1, 7), 24);
-        Check.due("together", x.count(13), 42);
-        Check.due("hours", x.setOf(1, 8), 2);
+        x.set(0, 33);
+        Check.due("setting(0)", x.setting(0), 33);
+        Check.due("setting(1)", x.setting(1), 6);
+        x.set(1, 44);
+        Check.due("setting(0)", x.setting(0), 33);
+        Check.due("setting(1)", x.setting(1), 44);
+        Check.due("load of now", x.count(3), 133);
     }
 
-    private static void setChanges() {
+    /** Doc, Promise 9: Undoable. */
+    private static void setIsUndoable() {
+        Check.undoable(Check.NEW, "set(0, 300)", x -> x.set(0, 300));
+        Check.undoable(Check.NEW, "set(1, 0)", x -> x.set(1, 0));
+        Check.undoable(Check.NEW, "set to the same", x -> x.set(1, 6));
+    }
+
+    /** Doc, Promise 9: `setting`: 0 or 1 */
+    private static void setBoundsOfSetting() {
+        Check.bounds(Check.NEW, "set(setting, 5)", 0, 1, Check.OUT_OF_BOUNDS,
+                (x, setting) -> x.set(setting, 5));
+    }
+
+    /** Doc, Promise 9: Throws `IndexOutOfBoundsException` if there is no such setting */
+    private static void setRefusesAMissingSetting() {
+        for (int value : new int[] {0, 48, 300}) {
+            Check.refused(Check.NEW, "set(-1, " + value + ")", Check.OUT_OF_BOUNDS,
+                    x -> x.set(-1, value));
+            Check.refused(Check.NEW, "set(2, " + value + ")", Check.OUT_OF_BOUNDS,
+                    x -> x.set(2, value));
+        }
+    }
+
+    /** Doc, Promise 9: Throws `IllegalArgumentException` if value is out of range */
+    private static void setBoundsOfValue() {
+        Check.bounds(Check.NEW, "set(0, value)", 0, 300, Check.ILLEGAL, (x, v) -> x.set(0, v));
+        Check.bounds(Check.NEW, "set(1, value)", 0, 48, Check.ILLEGAL, (x, v) -> x.set(1, v));
+        Check.taken(Check.NEW, "set(0, 49)", x -> x.set(0, 49));
+        Check.refused(Check.NEW, "set(1, 300)", Check.ILLEGAL, x -> x.set(1, 300));
+    }
+
+    /** Doc, Promise 9: Returns the previous value. */
+    private static void setReturnsThePreviousValue() {
         IslandReserve x = new IslandReserve();
         Check.due("set(0, 300)", x.set(0, 300), 80);
-        Check.due("load of now", x.count(3), 400);
         Check.due("set(0, 0)", x.set(0, 0), 300);
+        Check.due("set(0, 1)", x.set(0, 1), 0);
         Check.due("set(1, 48)", x.set(1, 48), 6);
         Check.due("set(1, 0)", x.set(1, 0), 48);
-        Check.due("setting(0)", x.setting(0), 0);
-        Check.due("setting(1)", x.setting(1), 0);
-        Check.due("undo", x.undo(), 3);
-        Check.due("undone", x.setting(1), 48);
-    }
-
-    private static void setRefuses() {
-        IslandReserve x = new IslandReserve();
-        Check.outOfBounds(x, "set(-1, 0)", () -> x.set(-1, 0));
-        Check.outOfBounds(x, "set(2, 0)", () -> x.set(2, 0));
-        Check.outOfBounds(x, "set(2, -1), both wrong", () -> x.set(2, -1));
-        Check.illegal(x, "set(0, -1)", () -> x.set(0, -1));
-        Check.illegal(x, "set(0, 301)", () -> x.set(0, 301));
-        Check.illegal(x, "set(1, -1)", () -> x.set(1, -1));
-        Check.illegal(x, "set(1, 49)", () -> x.set(1, 49));
-    }
-
-    /** An island with as many sets that run, from the set 0 on, at the hour 1. */
-    private static IslandReserve ofRunning(int sets) {
-        IslandReserve x = new IslandReserve();
-        for (int set = 0; set < sets; set++) {
-            x.start(set);
-        }
-        x.forecast(0, 0);
-        x.set(0, 0);
-        x.pass(1);
-        return x;
+        Check.due("set(1, 1)", x.set(1, 1), 0);
     }
 }
